@@ -379,9 +379,10 @@ public final class RafterPlaces {
 
         Fraction(long above, long below) {
             long divisor = commonDivisor(above, below);
+            long denominator = below / divisor;
             this.above = above / divisor;
-            // Every fraction may divide by its denominator, so none can ever be 0.
-            this.below = Math.max(1, below / divisor);
+            // cutOff() divides by it, so it is never 0, whatever comes in.
+            this.below = denominator > 0 ? denominator : 1;
         }
 
         private static long commonDivisor(long first, long second) {
@@ -392,7 +393,7 @@ public final class RafterPlaces {
                 divisor = rest;
                 rest = next;
             }
-            return Math.max(1, divisor);
+            return divisor > 0 ? divisor : 1;
         }
 
         long part(int part) {
