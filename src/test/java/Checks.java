@@ -88,6 +88,14 @@ final class Checks {
         return text.toString();
     }
 
+    static int made() {
+        return made;
+    }
+
+    static int wrong() {
+        return wrong;
+    }
+
     static void finish() {
         System.out.println(made + " checks, " + wrong + " wrong");
         if (wrong != 0 || made == 0) {
