@@ -28,13 +28,15 @@ public final class PromisesRoofTest {
                 NEW.due("slope(" + side + ", 1, 1)", false);
                 NEW.due("gable(" + side + ")", true);
             }
+            // What happens to one roof is nothing to those made before and after it.
+            String asNew = NEW.state();
+            RafterPlaces before = new RafterPlaces();
             RafterPlaces other = new RafterPlaces();
             other.outline(1, 1);
             other.slope(0, 20, 1);
             other.gable(1);
-            Checks.compare("a new one beside another", NEW.state(),
-                    Calls.after("outline(1000, 600)").state());
-            NEW.due("slope(0, 20, 20)", false);
+            Checks.compare("one made before another", Checks.state(before), asNew);
+            Checks.compare("one made after another", NEW.state(), asNew);
         });
     }
 

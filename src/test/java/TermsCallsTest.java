@@ -13,7 +13,8 @@ public final class TermsCallsTest {
         terms.test("ArrayIndexOutOfBoundsException: there is no such side,",
                 TermsCallsTest::noSuchSide);
         terms.test("no such side, part,", TermsCallsTest::noSuchPart);
-        terms.test("part, cut, end,", TermsCallsTest::noSuchCutOrEnd);
+        terms.test("part, cut,", TermsCallsTest::noSuchCut);
+        terms.test("cut, end,", TermsCallsTest::noSuchEnd);
         terms.test("end, hip.", TermsCallsTest::noSuchHip);
         terms.test("IllegalStateException: the side is a GABLE,", TermsCallsTest::theSideIsAGable);
         terms.test("or it can't be as told.", TermsCallsTest::itCannotBeAsTold);
@@ -120,9 +121,12 @@ public final class TermsCallsTest {
         }
     }
 
-    private static void noSuchCutOrEnd() {
+    private static void noSuchCut() {
         GABLED.dueForEach("tangent(0, 0, ?, 0)", Beyond.index(3), Calls.INDEX);
         GABLED.dueForEach("tangent(0, 0, ?, 1)", Beyond.index(3), Calls.INDEX);
+    }
+
+    private static void noSuchEnd() {
         GABLED.dueForEach("length(0, 0, ?)", Beyond.index(2), Calls.INDEX);
         GABLED.dueForEach("length(0, 50, ?)", Beyond.index(2), Calls.INDEX);
     }

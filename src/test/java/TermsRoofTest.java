@@ -1,7 +1,5 @@
 /** The document's sentences under "Terms" about outline, sides, planes, roof, faces, fractions. */
 public final class TermsRoofTest {
-    private static final String[] ALL_GABLES_BUT_ONE = {"gable(1)", "gable(2)", "gable(3)"};
-
     public static void main(String[] args) {
         Sentences terms = Sentences.under("Terms");
         terms.test("THE OUTLINE goes from 0, 0 to LONG, WIDE", TermsRoofTest::outlineReach);
@@ -69,18 +67,18 @@ public final class TermsRoofTest {
     }
 
     private static void sidesLines() {
-        String[] lines = {"0, 0 7, 0", "7, 0 7, 3", "0, 3 7, 3", "0, 0 0, 3"};
+        String[][] lines = {{"0, 0", "7, 0"}, {"7, 0", "7, 3"}, {"0, 3", "7, 3"}, {"0, 0", "0, 3"}};
         String[] oneFurtherIn = {"7, 1", "6, 3", "7, 2", "1, 3"};
-        String[] heightOfOpposite = {"3/1", "7/1", "3/1", "7/1"};
-        String[] opposite = {"7, 3", "0, 3", "7, 0", "7, 3"};
+        String[] acrossToTheOpposite = {"7, 3", "0, 3", "7, 0", "7, 3"};
+        String[] highestThere = {"3/1", "7/1", "3/1", "7/1"};
         for (int side = 0; side < 4; side++) {
             Calls alone = Calls.after("outline(7, 3)").thenOnly(side);
-            for (String place : lines[side].split(" (?=\\d, \\d$)")) {
+            for (String place : lines[side]) {
                 alone.fraction("place(" + place + ", part)", "0/1");
                 alone.due("face(" + place + ")", side);
             }
             alone.fraction("place(" + oneFurtherIn[side] + ", part)", "1/1");
-            alone.fraction("place(" + opposite[side] + ", part)", heightOfOpposite[side]);
+            alone.fraction("place(" + acrossToTheOpposite[side] + ", part)", highestThere[side]);
         }
     }
 
@@ -248,7 +246,7 @@ public final class TermsRoofTest {
         roof.fraction("peak(part)", "1260/43");
         roof.fraction("ridge(0, part)", "1512/43");
         roof.fraction("ridge(3, part)", "1680/43");
-        Calls alone = Calls.after("outline(10, 4)", "slope(0, 2, 4)").then(ALL_GABLES_BUT_ONE);
+        Calls alone = Calls.after("outline(10, 4)", "slope(0, 2, 4)").thenOnly(0);
         alone.fraction("ridge(0, part)", "0/1");
         alone.fraction("ridge(2, part)", "4/1");
         alone.fraction("peak(part)", "2/1");
