@@ -52,7 +52,22 @@ public final class FaceTest {
         Constructor<?>[] made = program.getDeclaredConstructors();
         Checks.due("constructors", () -> made.length, 1);
         Checks.due("the constructor", () -> made[0].toString(), "public RafterPlaces()");
+        writtenAsInTheDocument();
         Checks.finish();
+    }
+
+    /** Parameters' names, too, which a compiled class does not keep. */
+    private static void writtenAsInTheDocument() {
+        String program = Texts.inOneLine(Texts.read("src/main/java/RafterPlaces.java"));
+        List<String> lines = Texts.documentFace();
+        Checks.due("lines of the document's face", lines::size, FACE.length + 3);
+        for (String line : lines) {
+            // A method has its body where the document has a semicolon.
+            String written = line.endsWith(";") && line.contains("(")
+                    ? line.substring(0, line.length() - 1) + " {" : line;
+            Checks.compare("written in the program: " + written,
+                    String.valueOf(program.contains(written)), "true");
+        }
     }
 
     private static String told(Method method) {

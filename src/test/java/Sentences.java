@@ -1,15 +1,8 @@
-import java.io.IOException;
-import java.nio.charset.StandardCharsets;
-import java.nio.file.Files;
-import java.nio.file.Path;
-
 /**
  * Tests that bear a sentence of the document as their name, under the heading where it stands:
  * one that does not stand there is wrong, so that each sentence can be found from its test.
  */
 final class Sentences {
-    private static final Path DOCUMENT = Path.of("../shared/DOC.md");
-
     private final String heading;
     private final String section;
 
@@ -19,12 +12,12 @@ final class Sentences {
     }
 
     static Sentences under(String heading) {
-        String document = "\n" + read();
+        String document = "\n" + Texts.document();
         int start = document.indexOf("\n## " + heading + "\n");
         int next = document.indexOf("\n## ", start + 1);
         String section = document.substring(Math.max(start, 0),
                 next < 0 ? document.length() : next);
-        return new Sentences(heading, start < 0 ? "" : inOneLine(section));
+        return new Sentences(heading, start < 0 ? "" : Texts.inOneLine(section));
     }
 
     void test(String sentence, Runnable test) {
@@ -38,17 +31,5 @@ final class Sentences {
         Checks.compare(name + " | has checks", String.valueOf(Checks.made() > made + 1), "true");
         String word = Checks.wrong() == wrong ? "ok     " : "WRONG  ";
         System.out.println(word + name + " (" + (Checks.made() - made) + " checks)");
-    }
-
-    private static String read() {
-        try {
-            return Files.readString(DOCUMENT, StandardCharsets.UTF_8);
-        } catch (IOException e) {
-            return "";
-        }
-    }
-
-    private static String inOneLine(String text) {
-        return text.replaceAll("\\s+", " ");
     }
 }
